@@ -663,21 +663,15 @@ public final class WirelessCell {
         if (hasBody(AUTH, 1)) {
             link.loseKey(STATE_KNOWN);
             queueBody(AP, station, AUTH, 2);
+        } else if (hasBody(ASK, 0) && link.state >= STATE_KNOWN) {
+            link.loseKey(STATE_JOINED);
+            queueBody(AP, station, GRANT, station);
+            queueHand(AP, station, 1, link.tried);
         } else if (hasBody(ASK, 0)) {
-            grantOrRefuse(station, link);
+            queueBody(AP, station, LEAVE, 6);
         } else if (hasBody(LEAVE, frame[BODY_AT])) {
             link.loseKey(STATE_NONE);
         }
-    }
-
-    private void grantOrRefuse(int station, Link link) {
-        if (link.state < STATE_KNOWN) {
-            queueBody(AP, station, LEAVE, 6);
-            return;
-        }
-        link.loseKey(STATE_JOINED);
-        queueBody(AP, station, GRANT, station);
-        queueHand(AP, station, 1, link.tried);
     }
 
     private void actAtStation(int station, int[] frame) {
@@ -1462,33 +1456,12 @@ public final class WirelessCell {
             state[3] = 0x10325476;
             state[4] = 0xC3D2E1F0;
             for (int i = 0; i < blocks; i++) {
-                addBlock(i * BLOCK);
+                fillWords(i * BLOCK);
+                addWords();
             }
             for (int i = 0; i < 5; i++) {
                 Frames.writeHighestFirst(digest, 4 * i, 4, state[i]);
             }
-        }
-
-        private void addBlock(int at) {
-            fillWords(at);
-            int a = state[0];
-            int b = state[1];
-            int c = state[2];
-            int d = state[3];
-            int e = state[4];
-            for (int i = 0; i < 80; i++) {
-                int mixed = (a << 5 | a >>> 27) + e + words[i] + turnOf(i, b, c, d);
-                e = d;
-                d = c;
-                c = b << 30 | b >>> 2;
-                b = a;
-                a = mixed;
-            }
-            state[0] += a;
-            state[1] += b;
-            state[2] += c;
-            state[3] += d;
-            state[4] += e;
         }
 
         private void fillWords(int at) {
@@ -1502,18 +1475,35 @@ public final class WirelessCell {
             }
         }
 
-        /** The function and the constant of FIPS 180 for a step, added. */
-        private static int turnOf(int step, int b, int c, int d) {
-            if (step < 20) {
-                return ((b & c) | (~b & d)) + 0x5A827999;
+        private void addWords() {
+            int a = state[0];
+            int b = state[1];
+            int c = state[2];
+            int d = state[3];
+            int e = state[4];
+            for (int i = 0; i < 80; i++) {
+                int turn;
+                if (i < 20) {
+                    turn = ((b & c) | (~b & d)) + 0x5A827999;
+                } else if (i < 40) {
+                    turn = (b ^ c ^ d) + 0x6ED9EBA1;
+                } else if (i < 60) {
+                    turn = ((b & c) | (b & d) | (c & d)) + 0x8F1BBCDC;
+                } else {
+                    turn = (b ^ c ^ d) + 0xCA62C1D6;
+                }
+                int mixed = (a << 5 | a >>> 27) + e + words[i] + turn;
+                e = d;
+                d = c;
+                c = b << 30 | b >>> 2;
+                b = a;
+                a = mixed;
             }
-            if (step < 40) {
-                return (b ^ c ^ d) + 0x6ED9EBA1;
-            }
-            if (step < 60) {
-                return ((b & c) | (b & d) | (c & d)) + 0x8F1BBCDC;
-            }
-            return (b ^ c ^ d) + 0xCA62C1D6;
+            state[0] += a;
+            state[1] += b;
+            state[2] += c;
+            state[3] += d;
+            state[4] += e;
         }
     }
 
@@ -1624,7 +1614,9 @@ public final class WirelessCell {
         private static void setFirstBlock(int[] block, int[] frame, int flags, int number) {
             block[0] = flags;
             block[1] = 0;
-            System.arraycopy(frame, A2_AT, block, 2, 6);
+            for (int i = 0; i < 6; i++) {
+                block[2 + i] = frame[A2_AT + i];
+            }
             for (int i = 0; i < 4; i++) {
                 block[8 + i] = frame[SEALED_PART_AT - 1 - i];
             }
@@ -1658,22 +1650,15 @@ public final class WirelessCell {
                 for (int i = 0; i < BLOCK; i++) {
                     turned[i] = SBOX[block[(i + 4 * (i & 3)) & 15] & 255];
                 }
-                if (round < ROUNDS) {
-                    mixColumns();
-                }
                 for (int i = 0; i < BLOCK; i++) {
-                    block[i] = turned[i] ^ roundKeys[BLOCK * round + i];
-                }
-            }
-        }
-
-        private void mixColumns() {
-            for (int at = 0; at < BLOCK; at += 4) {
-                int first = turned[at];
-                int all = first ^ turned[at + 1] ^ turned[at + 2] ^ turned[at + 3];
-                for (int i = 0; i < 4; i++) {
-                    int pair = turned[at + i] ^ (i < 3 ? turned[at + i + 1] : first);
-                    turned[at + i] ^= all ^ (pair << 1) ^ (pair >> 7) * 283;
+                    int mixed = turned[i];
+                    if (round < ROUNDS) {
+                        int column = i & 12;
+                        int pair = mixed ^ turned[column | ((i + 1) & 3)];
+                        mixed ^= turned[column] ^ turned[column + 1] ^ turned[column + 2] ^ turned[column + 3];
+                        mixed ^= (pair << 1) ^ (pair >> 7) * 283;
+                    }
+                    block[i] = mixed ^ roundKeys[BLOCK * round + i];
                 }
             }
         }

@@ -21,6 +21,8 @@ public final class HandTest {
         hand1AtStation();
         hand3AtStation();
         keyedAnew();
+        keyedAnewForgetsParts();
+        withoutKeyForgetsParts();
         lostKeyLosesTried();
         handsOfOtherStates();
         handsInParts();
@@ -149,10 +151,17 @@ public final class HandTest {
         otherHead[7] ^= 1;
         byte[] otherNumber = right.clone();
         otherNumber[8] = 3;
-        int[] flags = {5, 3, 0, 2, 1, 1, 1, 1, 1, 9};
-        int[] parts = {0, 0, 0, 0, 1, 0, 0, 0, 0, 0};
-        byte[][] bodies = {right, right, right, right, right, otherHead, otherNumber,
-            java.util.Arrays.copyOf(right, right.length + 1), java.util.Arrays.copyOf(right, right.length - 1), right};
+        byte[] hand0 = right.clone();
+        hand0[8] = 0;
+        byte[] hand5 = right.clone();
+        hand5[8] = 5;
+        byte[] hand255 = right.clone();
+        hand255[8] = -1;
+        int[] flags = {5, 3, 0, 2, 1, 1, 1, 1, 1, 1, 1, 1, 1, 1, 9};
+        int[] parts = {0, 0, 0, 0, 1, 0, 0, 0, 0, 0, 0, 0, 0, 0, 0};
+        byte[][] bodies = {right, right, right, right, right, otherHead, otherNumber, hand0, hand5, hand255,
+            new byte[0], HEAD, java.util.Arrays.copyOf(right, right.length + 1),
+            java.util.Arrays.copyOf(right, right.length - 1), right};
         HandTest test = joined();
         for (int i = 0; i < bodies.length; i++) {
             test.put(true, flags[i], parts[i], bodies[i]);
@@ -247,6 +256,44 @@ public final class HandTest {
         cell.go(40);
         CHECKS.due("the station's PN is 1 again", Reference.pn(Cells.frame(cell, 1)), 1);
         CHECKS.due("the AP was keyed anew by HAND 4, too", cell.node(0, 8), 2);
+    }
+
+    /** Part 0 of what is said, sealed, from the station or from the AP. */
+    private void putSealed(boolean toAp, int part, long pn, byte[] text) {
+        byte[] header = Reference.header(8, (toAp ? 65 : 66) + (part == 0 ? 4 : 0), toAp ? 0 : 1, toAp ? 1 : 0, 0,
+                part + 16 * 3000);
+        Cells.putNow(cell, Reference.sealedFrame(header, pn, Cells.tk(1), text), 20);
+    }
+
+    private static void keyedAnewForgetsParts() {
+        byte[] said = Reference.bytes(170, 170, 3, 0, 0, 0, 8, 0);
+        for (int again = 0; again < 2; again++) {
+            HandTest test = new HandTest(Cells.keyed(1));
+            test.putSealed(false, 0, 50, said);
+            test.putSealed(true, 0, 50, said);
+            if (again == 1) {
+                test.put(false, 2, 0, hand(3, Cells.nonce(0), Cells.ptk(1)));
+                test.cell.go(60);
+            }
+            test.putSealed(false, 1, 51, new byte[5]);
+            test.putSealed(true, 1, 51, new byte[5]);
+            CHECKS.due("DELIVERED at 1, keyed anew " + again, test.cell.node(1, 8), 1 - again);
+            CHECKS.due("DELIVERED at the AP, keyed anew " + again, test.cell.node(0, 8), 1 - again);
+            CHECKS.due("dropped at 1", test.cell.node(1, 10), again);
+            CHECKS.due("dropped at the AP", test.cell.node(0, 10), again);
+        }
+    }
+
+    private static void withoutKeyForgetsParts() {
+        byte[] said = Reference.bytes(170, 170, 3, 0, 0, 0, 8, 0);
+        HandTest test = new HandTest(Cells.keyed(1));
+        test.putSealed(false, 0, 50, said);
+        test.cell.join(1);
+        test.cell.go(200);
+        CHECKS.due("keyed again, by the same TK", Cells.key(test.cell, 1, 0), Cells.tk(1));
+        test.putSealed(false, 1, 51, new byte[5]);
+        CHECKS.due("the part is dropped", test.cell.node(1, 10), 1);
+        CHECKS.due("nothing is DELIVERED", test.cell.node(1, 8), 0);
     }
 
     private static void lostKeyLosesTried() {

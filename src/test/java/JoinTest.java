@@ -13,6 +13,7 @@ public final class JoinTest {
         allFrames();
         joinAnew();
         joinWithFullQueue();
+        joinBehindSaying();
         leave();
         leaveForgetsAsking();
         endKeepsAsking();
@@ -113,6 +114,22 @@ public final class JoinTest {
         }
     }
 
+    /** Rows of the QUEUE that held what was said hold FRAMES of another kind then. */
+    private static void joinBehindSaying() {
+        WirelessCell cell = Cells.keyed(2);
+        for (int i = 0; i < 30; i++) {
+            Cells.say(cell, 1, 2, i);
+            cell.go(50);
+        }
+        CHECKS.due("all were passed on", cell.node(2, 8), 30);
+        cell.join(1);
+        CHECKS.due("FRAMES", cell.go(100), 16);
+        CHECKS.due("AUTH", Cells.frame(cell, 15), frame(176, 0, 0, 1, 34 * 16, AUTH_1));
+        CHECKS.due("AUTH 2", Cells.frame(cell, 13), frame(176, 0, 1, 0, 38 * 16, AUTH_2));
+        CHECKS.due("keyed", cell.node(1, 0), 4);
+        CHECKS.due("keyed at the AP", cell.node(1, 1), 4);
+    }
+
     private static void leave() {
         WirelessCell cell = Cells.keyed(2);
         CHECKS.due("leave", cell.leave(2, 77), 0);
@@ -127,12 +144,12 @@ public final class JoinTest {
     }
 
     private static void leaveForgetsAsking() {
-        WirelessCell cell = new WirelessCell();
-        cell.join(1);
+        WirelessCell cell = Cells.keyed(1);
         cell.leave(1, 3);
-        cell.go(100);
-        CHECKS.due("AUTH of step 2 came and did nothing", cell.node(1, 0), 1);
-        CHECKS.due("END came behind AUTH", cell.node(1, 1), 1);
+        cell.go(60);
+        CHECKS.due("taken", Cells.putNow(cell, frame(176, 0, 1, 0, 900 * 16, AUTH_2), 20), 2);
+        CHECKS.due("AUTH of step 2 did nothing", cell.node(1, 0), 1);
+        CHECKS.due("nothing is QUEUED", cell.node(1, 2), 0);
         cell.join(1);
         cell.go(200);
         CHECKS.due("asked anew, it joins", cell.node(1, 0), 4);
@@ -257,6 +274,11 @@ public final class JoinTest {
         CHECKS.due("a station to a station", Cells.putNow(cell, frame(176, 0, 1, 2, 0, AUTH_2), 40), 2);
         CHECKS.due("does nothing", cell.node(1, 0), 1);
         CHECKS.due("for nobody", Cells.putNow(cell, frame(176, 0, 9, 1, 0, AUTH_1), 40), 1);
+        for (int i = 0; i < 5; i++) {
+            byte[] near = java.util.Arrays.copyOf(frame(176, 0, 0, 1, 0, AUTH_1), 30);
+            near[4 + i] ^= 1;
+            CHECKS.due("A1 is near the AP's", Cells.putNow(cell, Reference.withFcs(near), 40), 1);
+        }
     }
 
     private static void otherKindsAtAp() {

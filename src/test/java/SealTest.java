@@ -21,6 +21,7 @@ public final class SealTest {
         lostAndNotKeyed();
         sealedFrames();
         sealedParts();
+        manyParts();
         sealedFromAp();
         passedOn();
         notPassedOn();
@@ -173,6 +174,18 @@ public final class SealTest {
         CHECKS.due("parts follow an ACK by the slot after next", cell.air(3, 0), cell.air(4, 0) + 2 + 2);
     }
 
+    private static void manyParts() {
+        WirelessCell cell = Cells.keyed(1);
+        cell.size(16);
+        for (int i = 0; i < 21; i++) {
+            Cells.say(cell, 1, 0, 200);
+            cell.go(200);
+            CHECKS.due("PN of the last part", Reference.pn(Cells.frame(cell, 1)), 13 * (i + 1));
+        }
+        CHECKS.due("P1 counts, too", cell.air(1, 10 + 25), 1);
+        CHECKS.due("all is DELIVERED", cell.node(0, 8), 21);
+    }
+
     private static void sealedFromAp() {
         WirelessCell cell = Cells.keyed(2);
         Cells.say(cell, 0, 2, 33);
@@ -308,6 +321,10 @@ public final class SealTest {
         CHECKS.due("the same", cell.node(0, 9), 1);
         Cells.putNow(cell, first, 60);
         CHECKS.due("not sent again", cell.node(0, 9), 1);
+        byte[] otherHigh = java.util.Arrays.copyOf(again, again.length - 4);
+        otherHigh[23] ^= 1;
+        Cells.putNow(cell, Reference.withFcs(otherHigh), 60);
+        CHECKS.due("another high byte of SC", cell.node(0, 9), 1);
         Cells.putNow(cell, auth(9, 8), 60);
         Cells.putNow(cell, auth(9, 8), 60);
         CHECKS.due("no node", cell.node(0, 9), 1);
@@ -394,22 +411,26 @@ public final class SealTest {
         test.sequence++;
         test.putToAp(1, 65, 1, 0, Cells.said(9));
         test.due("part 1 of another sequence number", 4, 0);
+        test.putToAp(1, 69, 0, 0, HEAD);
+        test.sequence += 256;
+        test.putToAp(1, 65, 1, 0, Cells.said(9));
+        test.due("part 1 of a sequence number with another high byte", 5, 0);
         test.putToAp(1, 69, 0, 0, Reference.bytes(1, 2, 3));
         test.putToAp(1, 69, 0, 0, HEAD);
         test.putToAp(1, 69, 1, 3, Cells.said(9));
         test.putToAp(1, 69, 2, 3, new byte[0]);
-        test.due("part 0 begins anew", 4, 0);
+        test.due("part 0 begins anew", 5, 0);
         test.putToAp(1, 65, 3, 0, Cells.said(2));
-        test.due("whole, A3 is that of its last part", 4, 1);
+        test.due("whole, A3 is that of its last part", 5, 1);
         CHECKS.due("all parts", Cells.delivered(test.cell, 0, 0), Reference.join(Cells.said(9), Cells.said(2)));
         test.putToAp(1, 65, 4, 0, Cells.said(2));
-        test.due("behind the whole one", 5, 1);
+        test.due("behind the whole one", 6, 1);
         test.putToAp(1, 69, 0, 0, HEAD);
         for (int part = 1; part < 15; part++) {
             test.putToAp(1, 69, part, 0, Reference.bytes(part));
         }
         test.putToAp(1, 65, 15, 0, Reference.bytes(15));
-        test.due("sixteen parts", 5, 2);
+        test.due("sixteen parts", 6, 2);
         CHECKS.due("their bytes", test.cell.delivered(0, 1, 1), 15);
     }
 
@@ -421,13 +442,16 @@ public final class SealTest {
         test.due("209 bytes", 1, 1);
         test.putToAp(1, 65, 0, 0, Reference.join(HEAD, Cells.said(248)));
         test.due("256 bytes, the most that a FRAME has", 2, 1);
+        test.pn--;
+        test.putToAp(1, 65, 0, 0, HEAD);
+        test.due("its PN was taken all the same", 3, 1);
         test.putToAp(1, 69, 0, 0, Reference.join(HEAD, Cells.said(192)));
         test.putToAp(1, 69, 1, 0, Cells.said(8));
-        test.due("208 so far", 2, 1);
+        test.due("208 so far", 3, 1);
         test.putToAp(1, 69, 2, 0, Cells.said(1));
-        test.due("it grows beyond", 3, 1);
+        test.due("it grows beyond", 4, 1);
         test.putToAp(1, 65, 3, 0, new byte[0]);
-        test.due("and was dropped", 4, 1);
+        test.due("and was dropped", 5, 1);
     }
 
     private static void otherMessages() {

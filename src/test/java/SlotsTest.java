@@ -27,6 +27,7 @@ public final class SlotsTest {
         ackWhileSomethingIsQueued();
         partsAreDue();
         partFails();
+        triesOfParts();
         sequenceNumbers();
         queueIsFull();
         CHECKS.finish();
@@ -361,6 +362,12 @@ public final class SlotsTest {
         CHECKS.due("all are over", cell.count(2), 200);
         CHECKS.due("QUIET", cell.count(6), cell.count(0) - 21);
         CHECKS.due("the 40th was not CLEAN", cell.air(39, 4), 0);
+        for (int i = 0; i < 40; i++) {
+            cell.copy(0);
+            cell.put(cell.count(0));
+            cell.go(15);
+            CHECKS.due("alone, it is CLEAN", cell.air(0, 4), 1);
+        }
     }
 
     private static void forgedAck() {
@@ -450,6 +457,22 @@ public final class SlotsTest {
         CHECKS.due("the second part again", cell.air(1, 10 + 1), 65 + 8);
         CHECKS.due("its PN is the same", cell.air(1, 10 + 24), 2);
         CHECKS.due("DELIVERED", Cells.delivered(cell, 0, 0), Cells.said(20));
+    }
+
+    private static void triesOfParts() {
+        WirelessCell cell = Cells.keyed(1);
+        cell.size(16);
+        cell.limit(2);
+        int from = cell.count(0);
+        cell.noise(from, from);
+        cell.noise(from + 17, from + 17);
+        Cells.say(cell, 1, 0, 20);
+        cell.go(16);
+        dueNode(cell, 1, "the first part went well the second time", 1, 0, 15, 0, 0);
+        cell.go(9);
+        dueNode(cell, 1, "the second part FAILED once, CW as it was", 1, 0, 31, 1, 0);
+        cell.go(20);
+        CHECKS.due("DONE", cell.ended(0), 1);
     }
 
     private static void sequenceNumbers() {

@@ -259,5 +259,14 @@ public final class ToldTest {
             CHECKS.due("in slot order, then as told", cell.air(5 - i, 2), 1 + want[i]);
             CHECKS.due("in their slots", cell.air(5 - i, 0), slots[want[i]]);
         }
+        int now = cell.count(0);
+        for (int i = 0; i < 20; i++) {
+            Cells.load(cell, Reference.bytes(100 + i));
+            CHECKS.due("put", cell.put(now + 20 - i), i + 1);
+        }
+        cell.go(25);
+        for (int i = 0; i < 20; i++) {
+            CHECKS.due("each has bytes of its own", cell.air(i, 10), 100 + i);
+        }
     }
 }

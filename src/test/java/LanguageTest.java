@@ -89,7 +89,7 @@ public final class LanguageTest {
                 fields += isStatic ? 0 : 1;
                 CHECKS.holds("5: " + field + " is final", !isStatic || Modifier.isFinal(field.getModifiers()));
             }
-            CHECKS.holds("11: fields of " + type + ": " + fields, fields <= 22);
+            CHECKS.holds("11: fields of " + type + ": " + fields, fields <= 20);
             for (Method method : type.getDeclaredMethods()) {
                 CHECKS.holds("11: parameters of " + method, method.getParameterCount() <= 7);
             }

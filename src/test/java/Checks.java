@@ -28,6 +28,10 @@ final class Checks {
         return wrong;
     }
 
+    int askedSoFar() {
+        return asked;
+    }
+
     void finish() {
         System.out.println(asked + " answers, " + wrong + " not as due");
         if (wrong != 0 || asked == 0) {

@@ -314,6 +314,15 @@ final class EdgesOfAsked {
         edges.due("spoiled, ahead of its last slot", spoiled.air(0, 4), 2);
         spoiled.go(1);
         edges.due("behind it", spoiled.air(0, 4), 0);
+        cell.go(10);
+        int latest = cell.count(1);
+        for (int i = 0; i < 2; i++) {
+            Cells.load(cell, Cells.said(1));
+            cell.put(cell.count(0));
+        }
+        cell.go(20);
+        edges.due("behind others that collided, it was CLEAN all the same", cell.air(cell.count(1) - 1, 4), 1);
+        edges.due("one of those that collided", cell.air(cell.count(1) - 1 - latest, 4), 0);
     }
 
     private void airBytes() {

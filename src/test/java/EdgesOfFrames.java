@@ -15,14 +15,18 @@ final class EdgesOfFrames {
         edges.sentence("I", "numbers of several bytes have the lowest first, but where told.", this::lowestFirst);
         edges.sentence("I", "SC (2: a part's number + 16 times a sequence number 0 .. 4095)", this::numbersInSc);
         edges.sentence("I", "of an ACK nothing more", this::ackHasNothingMore);
+        edges.sentence("I", "FCS: CRC-32 (as in Ethernet) of all bytes ahead of it.", this::sumOfAllBytes);
         edges.sentence("I", "4 more parts follow", this::moreParts);
+        edges.sentence("I", "Other FRAMES have A3 the AP's ADDRESS.", this::thirdAddresses);
         edges.sentence("I", "A FRAME of n bytes lasts 2 + n / 32 slots (n / 32 to the upper whole).", this::slots);
+        edges.sentence("I", "AUTH: 0, 0, its step 1 (of stations) or 2 (of the AP), 0, 0, 0.", this::steps);
         edges.sentence("I", "GRANT: 1, 0, 0, 0, k, 192 (k the station).", this::grant);
         edges.sentence("I", "8, 0 and what was said.", this::nothingSaid);
         edges.sentence("I", "PARTS of a MESSAGE have SIZE bytes (16 .. 255; 255 at first;", this::sizes);
         edges.sentence("I", "the last one what is left)", this::lastPart);
         edges.sentence("I", "at most 16.", this::sixteenParts);
         edges.sentence("II", "SEALED is DATA of 8, 0 MESSAGES", this::handsAreNotSealed);
+        edges.sentence("II", "each part by itself (CCMP)", this::partsAreSealedEach);
         edges.sentence("II", "1 for the first part that a node seals by a key, then one more each time",
                 this::sealNumbers);
         edges.sentence("II", "PN, a number of six bytes, P0 its lowest", this::sixBytes);
@@ -114,13 +118,18 @@ final class EdgesOfFrames {
         int[] numbers = {0, 15, 16, 255, 256, 4095};
         for (int number : numbers) {
             Others others = Others.atAp(4);
-            others.sequence = number;
+            others.sealedSequence = number;
             others.seal(69, 0, 0, Others.said(1));
             others.seal(69, 1, 0, Cells.said(1));
-            others.sequence = number ^ 1;
+            others.sealedSequence = number ^ 1;
             others.seal(65, 2, 0, Cells.said(1));
             edges.due("sequence number " + number + " and another one", others.cell.node(0, 8), 0);
-            others.sequence = number;
+            others.sealedSequence = number;
+            others.seal(69, 0, 0, Others.said(1));
+            others.sealedSequence = number ^ 2048;
+            others.seal(65, 1, 0, Cells.said(1));
+            edges.due("sequence number " + number + " and one with another highest bit", others.cell.node(0, 8), 0);
+            others.sealedSequence = number;
             others.seal(69, 0, 0, Others.said(1));
             others.seal(65, 1, 0, Cells.said(1));
             edges.due("sequence number " + number, others.cell.node(0, 8), 1);
@@ -140,6 +149,25 @@ final class EdgesOfFrames {
         edges.due("slots", others.cell.air(0, 3), 3);
     }
 
+    private void sumOfAllBytes() {
+        int[] lengths = {0, 1, 2, 10, 255, 296};
+        for (int bytes : lengths) {
+            WirelessCell cell = new WirelessCell();
+            Cells.load(cell, Cells.said(bytes));
+            cell.check();
+            edges.due("of " + bytes, Cells.tape(cell), Reference.withFcs(Cells.said(bytes)));
+        }
+        Others others = new Others(new WirelessCell());
+        byte[] right = others.frame(Others.END, 0, 1, 255, new byte[272]);
+        int[] places = {0, 1, 2, 3, 15, 295};
+        for (int at : places) {
+            byte[] wrong = right.clone();
+            wrong[at] ^= 8;
+            edges.due("byte " + at + " is another one, FCS is not", others.acks(wrong), 0);
+        }
+        edges.due("all are as they were", others.acks(right), 1);
+    }
+
     private void moreParts() {
         int[][] cases = {{8, 1}, {9, 2}, {24, 2}, {25, 3}};
         for (int[] each : cases) {
@@ -151,6 +179,23 @@ final class EdgesOfFrames {
                 int more = part + 1 < each[1] ? 4 : 0;
                 edges.due("part " + part, cell.air(2 * (each[1] - part) - 1, 10 + 1), 65 + more);
             }
+        }
+    }
+
+    /** Behind twelve MESSAGES of stations for stations, so that a QUEUE's places were all used for these. */
+    private void thirdAddresses() {
+        WirelessCell cell = Cells.keyed(2);
+        for (int i = 0; i < 12; i++) {
+            cell.submit(1, 2);
+            cell.go(40);
+        }
+        edges.due("DATA of a station", cell.air(3, 10 + 21), 2);
+        edges.due("DATA of the AP", cell.air(1, 10 + 21), 1);
+        cell.join(1);
+        edges.due("FRAMES", cell.go(100), 16);
+        for (int i = 1; i < 16; i += 2) {
+            edges.due("A3 of FRAME " + i, cell.air(i, 10 + 16) * 256 + cell.air(i, 10 + 21), 512);
+            edges.due("it is not sealed", cell.air(i, 10 + 1) & 64, 0);
         }
     }
 
@@ -167,6 +212,19 @@ final class EdgesOfFrames {
             edges.due("no slot was QUIET", cell.count(6), 0);
             cell.go(1);
             edges.due("the next one is", cell.count(6), 1);
+        }
+    }
+
+    private void steps() {
+        int[] steps = {0, 1, 2, 3, 128, 255};
+        for (int step : steps) {
+            byte[] body = Reference.bytes(0, 0, step, 0, 0, 0);
+            Others ap = Others.atAp(1);
+            ap.put(ap.frame(Others.AUTH, 0, 0, 1, body));
+            edges.due("step " + step + " at the AP", ap.stateAtAp(), step == 1 ? 2 : 1);
+            Others station = Others.atStation(1);
+            station.put(station.frame(Others.AUTH, 0, 1, 0, body));
+            edges.due("step " + step + " at a station", station.stateAtStation(), step == 2 ? 2 : 1);
         }
     }
 
@@ -250,6 +308,19 @@ final class EdgesOfFrames {
         others.cell.go(9);
         edges.due("HAND 2 of a keyed station", others.cell.air(0, 10 + 1), 1);
         edges.due("bytes", others.cell.air(0, 2), 28 + 57);
+    }
+
+    private void partsAreSealedEach() {
+        WirelessCell cell = Cells.keyed(1);
+        cell.size(16);
+        Cells.say(cell, 1, 0, 25);
+        cell.go(40);
+        byte[] message = Others.said(25);
+        for (int part = 0; part < 3; part++) {
+            byte[] want = Arrays.copyOfRange(message, 16 * part, Math.min(16 * part + 16, 33));
+            edges.due("part " + part, Cells.frame(cell, 5 - 2 * part), Reference.sealedFrame(
+                    Reference.header(8, part < 2 ? 69 : 65, 0, 1, 0, part + 16 * 4), 1 + part, Cells.tk(1), want));
+        }
     }
 
     private void sealNumbers() {

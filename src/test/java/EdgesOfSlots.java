@@ -12,6 +12,7 @@ final class EdgesOfSlots {
         edges.sentence("VI", "Each node has a QUEUE of 12 MESSAGES (other FRAMES are such, too)", this::queueOfTwelve);
         edges.sentence("VI", "what finds it full is lost.", this::lost);
         edges.sentence("VI", "the node's next sequence number (0 at first, behind 4095 again).", this::sequenceNumbers);
+        edges.sentence("VI", "SLOTS 0, 1, .. go one by one.", this::oneByOne);
         edges.sentence("VI", "A FRAME has its slots from the one in which it begins.", this::firstSlot);
         edges.sentence("VI", "A slot is QUIET in which nobody sends", this::quietSlots);
         edges.sentence("VI", "(those ahead of slot 0 were).", this::aheadOfSlotZero);
@@ -126,6 +127,24 @@ final class EdgesOfSlots {
 
     // ---- who begins
 
+    /** However they are told to go, the same happens in them: a station joins in 58 slots of FRAMES, others have 3. */
+    private void oneByOne() {
+        int[] steps = {1, 7, 100, 300, 2100};
+        for (int step : steps) {
+            WirelessCell cell = joining(3);
+            put(cell, 250, Cells.said(1));
+            int began = 0;
+            for (int slot = 0; slot < 2100; slot += step) {
+                began += cell.go(step);
+            }
+            edges.due("the next slot, by " + step, cell.count(0), 2100);
+            edges.due("FRAMES, by " + step, began, 16 + 1);
+            edges.due("others' slot, by " + step, cell.air(0, 0), 250);
+            edges.due("AUTH's slot, by " + step, cell.air(16, 0), 3);
+            edges.due("QUIET slots, by " + step, cell.count(6), 2100 - 58 - 3);
+        }
+    }
+
     private void firstSlot() {
         WirelessCell cell = joining(5);
         cell.go(6);
@@ -150,6 +169,12 @@ final class EdgesOfSlots {
         edges.due("others are somebody", cell.count(6), 11);
         cell.join(1);
         edges.due("a slot behind NOISE and others, three QUIET ones ahead", cell.go(3), 1);
+        WirelessCell noisy = joining(7);
+        noisy.noise(0, 6);
+        noisy.go(7);
+        edges.due("NOISE is nobody, also where somebody is to send", noisy.count(6), 7);
+        noisy.go(4);
+        edges.due("a node is somebody", noisy.count(6), 7);
     }
 
     private void aheadOfSlotZero() {

@@ -29,6 +29,8 @@ final class EdgesOfStates {
         edges.sentence("IV", "GRANT, if it is known: joined.", this::grantAtStation);
         edges.sentence("IV", "END: none, without key.", this::endAtStation);
         edges.sentence("IV", "DATA from the AP that is not sealed: if it is joined or keyed: a HAND 1:", this::hand1);
+        edges.sentence("IV", "the PTK by its SECRET, its NONCE and that NONCE is kept as TRIED; HAND 2 is QUEUED",
+                this::hand1Anew);
         edges.sentence("IV", "a HAND 3: if there is a TRIED one, for that NONCE, and the MIC is right by it: keyed by "
                 + "its TK; HAND 4 is QUEUED.", this::hand3);
         edges.sentence("IV", "Sealed DATA from the AP, if it is keyed: V.", this::sealedAtStation);
@@ -260,6 +262,20 @@ final class EdgesOfStates {
         }
     }
 
+    private void hand1Anew() {
+        byte[] otherPtk = Reference.ptk(Cells.secret(1), 1, OTHER_NONCE, Cells.nonce(1));
+        Others others = ready(3);
+        others.putAndLose(others.frame(Others.DATA, 2, 1, 0, Others.hand(1, OTHER_NONCE, null)));
+        others.putAndLose(others.frame(Others.DATA, 2, 1, 0, Others.rightHand(3)));
+        edges.due("the one ahead is not TRIED any more", others.stateAtStation(), 3);
+        others.putAndLose(others.frame(Others.DATA, 2, 1, 0, Others.hand(3, OTHER_NONCE, otherPtk)));
+        edges.due("this one is", Cells.key(others.cell, 1, 0), Reference.tk(otherPtk));
+        Others keyed = Others.atStation(4);
+        keyed.put(keyed.frame(Others.DATA, 2, 1, 0, Others.hand(1, OTHER_NONCE, null)));
+        edges.due("keyed by the one ahead, as long as no HAND 3 comes", Cells.key(keyed.cell, 1, 0), Cells.tk(1));
+        dueNext(keyed, 1, "HAND 2", 8, 1, Others.hand(2, Cells.nonce(1), otherPtk));
+    }
+
     private void hand3() {
         Others none = Others.atStation(3);
         none.put(none.frame(Others.DATA, 2, 1, 0, Others.rightHand(3)));
@@ -298,6 +314,8 @@ final class EdgesOfStates {
             edges.due("QUEUED, STATE " + state, others.cell.node(1, 2), 0);
             edges.due("DELIVERED, STATE " + state, others.cell.node(1, 8), state < 4 ? 0 : 1);
             edges.due("none is dropped", others.cell.node(1, 10), 0);
+            edges.due("an ACK, and nothing else is sent", others.cell.go(60), 1);
+            edges.due("the STATE stays", others.stateAtStation(), state);
         }
     }
 
@@ -520,6 +538,12 @@ final class EdgesOfStates {
                 byte[] body = Others.rightHand(hand);
                 body[i] ^= (byte) (i == 8 ? 16 : 1);
                 edges.due("byte " + i + " of HAND " + hand, does(hand, way(hand), 0, body), 0);
+            }
+            int[] numbers = {0, 5, 6, 128, 255};
+            for (int number : numbers) {
+                byte[] body = Others.rightHand(hand);
+                body[8] = (byte) number;
+                edges.due("HAND " + number + ", as long as " + hand, does(hand, way(hand), 0, body), 0);
             }
         }
     }

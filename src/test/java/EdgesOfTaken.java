@@ -212,7 +212,7 @@ final class EdgesOfTaken {
         edges.due("the same SC, not sent again", others.cell.node(1, 9), 0);
         others.acks(end(8, 1, 0, 0));
         edges.due("the same SC, sent again", others.cell.node(1, 9), 1);
-        int[] numbers = {1, 15, 16, 256, 32768, 65535};
+        int[] numbers = {1, 15, 16, 255, 256, 32768, 65535};
         for (int sc : numbers) {
             others.acks(end(8, 1, 0, sc));
             edges.due("another SC, " + sc, others.cell.node(1, 9), 1);
@@ -263,7 +263,7 @@ final class EdgesOfTaken {
         edges.due("16 bytes, a part of none", others.cell.node(0, 10), 3);
         others.seal(65, 1, 0, Others.said(1));
         edges.due("they were taken", others.cell.node(0, 8), 1);
-        others.seal(65, 0, 0, Arrays.copyOf(Others.said(250), 256));
+        others.seal(65, 0, 0, Others.said(248));
         edges.due("272 bytes, whose MESSAGE is too long", others.cell.node(0, 10), 4);
     }
 
@@ -316,6 +316,15 @@ final class EdgesOfTaken {
         others.cell.go(6);
         others.put(right);
         edges.due("the MIC is right", others.cell.node(0, 8), 1);
+        others.cell.go(6);
+        others.sealBy(69, 0, 0, 6, Others.said(1));
+        byte[] second = Reference.sealedFrame(Reference.header(8, 65, 0, 1, 0, 1 + 16 * 1000), 7, Cells.tk(1),
+                Cells.said(1));
+        others.put(Others.altered(second, 32, 1));
+        edges.due("a second part's MIC is wrong", others.cell.node(0, 10), 19);
+        others.cell.go(6);
+        others.put(second);
+        edges.due("the MESSAGE begun was not dropped with it", others.cell.node(0, 8), 2);
     }
 
     private void takenAllTheSame() {
@@ -324,7 +333,7 @@ final class EdgesOfTaken {
         edges.due("a part of no MESSAGE", others.cell.node(0, 10), 1);
         others.sealBy(65, 0, 0, 50, Others.said(1));
         edges.due("its PN is taken", others.cell.node(0, 10), 2);
-        others.sealBy(65, 0, 0, 60, Arrays.copyOf(Others.said(250), 209));
+        others.sealBy(65, 0, 0, 60, Others.said(201));
         others.sealBy(65, 0, 0, 60, Others.said(1));
         edges.due("also that of a MESSAGE that is too long", others.cell.node(0, 10), 4);
         others.sealBy(65, 0, 9, 70, Others.said(1));
@@ -337,6 +346,9 @@ final class EdgesOfTaken {
         edges.due("a wrong MIC", others.cell.node(0, 10), 6);
         others.sealBy(65, 0, 0, 71, Others.said(1));
         edges.due("its PN is not taken", others.cell.node(0, 8), 1);
+        others.sealBy(65, 0, 0, 80, Others.said(248));
+        others.sealBy(65, 0, 0, 80, Others.said(1));
+        edges.due("that of the longest part, of 256 bytes, is", others.cell.node(0, 8), 1);
     }
 
     // ---- parts
@@ -350,10 +362,10 @@ final class EdgesOfTaken {
         others.seal(65, 1, 0, Cells.said(3));
         edges.due("bytes of the second one alone", others.cell.delivered(0, 0, 1), 5);
         others.seal(69, 0, 0, Others.said(50));
-        others.sequence++;
+        others.sealedSequence++;
         others.seal(65, 0, 0, Others.said(1));
         edges.due("of another sequence number", others.cell.delivered(0, 1, 1), 1);
-        others.sequence--;
+        others.sealedSequence--;
         others.seal(65, 1, 0, Cells.said(3));
         edges.due("so the one ahead is gone", others.cell.node(0, 10), 1);
     }
@@ -374,7 +386,7 @@ final class EdgesOfTaken {
         int[] changes = {1, 16, 256, 2048};
         for (int change : changes) {
             others.seal(69, 0, 0, Others.said(1));
-            others.sequence ^= change;
+            others.sealedSequence ^= change;
             others.seal(65, 1, 0, Cells.said(1));
         }
         edges.due("other sequence numbers", others.cell.node(0, 10), wrong.length + changes.length);
@@ -546,12 +558,16 @@ final class EdgesOfTaken {
         edges.due("209 so far", others.cell.node(0, 10), 1);
         others.seal(65, 2, 0, new byte[0]);
         edges.due("nothing goes on with it", others.cell.node(0, 10), 2);
-        others.seal(69, 0, 0, Others.said(201));
-        edges.due("209 at once", others.cell.node(0, 10), 3);
+        others.seal(69, 0, 0, Others.said(200));
+        others.seal(69, 1, 0, Cells.said(1));
         others.seal(65, 1, 0, new byte[0]);
-        edges.due("nothing goes on with it", others.cell.node(0, 10), 4);
-        others.seal(65, 0, 0, Arrays.copyOf(Others.said(248), 256));
-        edges.due("256 at once", others.cell.node(0, 10), 5);
+        edges.due("not even a shorter part of the same number", others.cell.node(0, 10), 4);
+        others.seal(69, 0, 0, Others.said(201));
+        edges.due("209 at once", others.cell.node(0, 10), 5);
+        others.seal(65, 1, 0, new byte[0]);
+        edges.due("nothing goes on with it", others.cell.node(0, 10), 6);
+        others.seal(65, 0, 0, Others.said(248));
+        edges.due("256 at once", others.cell.node(0, 10), 7);
         edges.due("none of them is DELIVERED", others.cell.node(0, 8), 1);
     }
 }

@@ -267,25 +267,36 @@ final class EdgesOfTold {
         edges.due("in slot 10", cell.air(0, 0), 10);
     }
 
+    private static byte[] all(int value, int bytes) {
+        byte[] row = new byte[bytes];
+        java.util.Arrays.fill(row, (byte) value);
+        return row;
+    }
+
     private void putTwenty() {
         WirelessCell cell = new WirelessCell();
         for (int n = 1; n <= 20; n++) {
-            Cells.load(cell, Cells.said(n));
+            Cells.load(cell, all(n, n));
             edges.due("the " + n + "th", cell.put(n == 1 ? 0 : n == 2 ? 1 : 100), n);
         }
-        Cells.load(cell, Cells.said(33));
+        Cells.load(cell, all(33, 33));
         edges.due("the 21st", cell.put(200), -1);
-        edges.due("the TAPE stays", Cells.tape(cell), Cells.said(33));
+        edges.due("the TAPE stays", Cells.tape(cell), all(33, 33));
         cell.go(1);
         edges.due("one is on the air", cell.put(200), 20);
-        Cells.load(cell, Cells.said(34));
+        Cells.load(cell, all(34, 34));
         edges.due("no room", cell.put(200), -1);
         cell.go(50);
         edges.due("two are behind", cell.put(200), 20);
-        edges.due("the 20th FRAME of others", cell.go(100), 18);
-        Cells.load(cell, Cells.said(35));
+        edges.due("the others of the first 20", cell.go(100), 18);
+        for (int i = 0; i < 18; i++) {
+            edges.due("each has bytes of its own", Cells.frame(cell, i), all(20 - i, 20 - i));
+        }
+        Cells.load(cell, all(35, 35));
         edges.due("two had not begun", cell.put(300), 3);
         edges.due("all begin", cell.go(250), 3);
-        edges.due("the one that was told last", cell.air(0, 2), 35);
+        for (int i = 0; i < 3; i++) {
+            edges.due("the latest have theirs, too", Cells.frame(cell, i), all(35 - i, 35 - i));
+        }
     }
 }

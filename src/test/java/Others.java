@@ -2,7 +2,7 @@ import java.util.Arrays;
 
 /**
  * Somebody else who puts FRAMES on the air of a cell, and can bring a side of station 1 into any STATE by them. Each
- * FRAME has a sequence number of its own, so that none is dropped as sent again.
+ * FRAME that isn't sealed has a sequence number of its own, so that none is dropped as sent again.
  */
 final class Others {
     static final int AUTH = 176;
@@ -20,7 +20,9 @@ final class Others {
     private static final byte[] HEAD_OF_HAND = Reference.bytes(170, 170, 3, 0, 0, 0, 136, 142);
 
     final WirelessCell cell;
-    int sequence = 2000;
+    private int sequence = 2000;
+    /** Of what is sealed: all parts have the same one, until a test takes another. */
+    int sealedSequence = 1000;
     long pn = 1;
 
     Others(WirelessCell cell) {
@@ -92,7 +94,7 @@ final class Others {
 
     void sealBy(int flags, int part, int third, long number, byte[] text) {
         boolean toAp = (flags & 1) != 0;
-        byte[] header = Reference.header(DATA, flags, toAp ? 0 : 1, toAp ? 1 : 0, third, part + 16 * sequence);
+        byte[] header = Reference.header(DATA, flags, toAp ? 0 : 1, toAp ? 1 : 0, third, part + 16 * sealedSequence);
         put(Reference.sealedFrame(header, number, Cells.tk(1), text));
         cell.go(6);
     }
@@ -153,7 +155,6 @@ final class Others {
         lose();
     }
 
-    /** The same as seen from outside: STATE as the AP has it, how many FRAMES the AP has QUEUED so far. */
     int stateAtAp() {
         return cell.node(1, 1);
     }

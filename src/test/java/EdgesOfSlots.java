@@ -219,6 +219,14 @@ final class EdgesOfSlots {
         edges.due("slot 7, three QUIET ones ahead, but it waits", waits.go(1), 0);
         edges.due("slot 8", waits.go(1), 1);
         edges.due("the same FRAME", waits.air(0, 10 + 1), 8);
+        WirelessCell all = Cells.keyed(8);
+        for (int k = 0; k <= 8; k++) {
+            all.draw(k == 0 ? 1 : 2);
+            all.submit(k, k == 0 ? 1 : 0);
+        }
+        edges.due("all nine have one, and BACKOFF", all.go(1), 0);
+        edges.due("the AP has BACKOFF 0", all.go(1), 1);
+        edges.due("its sender", all.air(0, 1), 0);
     }
 
     private void threeQuietSlots() {

@@ -627,8 +627,10 @@ public final class WirelessCell {
         }
         node.cw = Math.min(2 * node.cw + 1, LAST_CW);
         node.backoff = draws.takeFirst() & node.cw;
-        node.frame[1] |= AGAIN;
-        Frames.writeFcs(node.frame, node.frameLength - FCS_BYTES);
+        if (node.frameLength >= SHORTEST_OTHER) {
+            node.frame[1] |= AGAIN;
+            Frames.writeFcs(node.frame, node.frameLength - FCS_BYTES);
+        }
     }
 
     private void countDown() {

@@ -1,7 +1,7 @@
 /** Counts and prints the answers that are not as due. */
 final class Checks {
     private int wrong;
-    private int asked;
+    private long asked;
 
     void due(String what, long got, long want) {
         asked++;
@@ -28,7 +28,7 @@ final class Checks {
         return wrong;
     }
 
-    int askedSoFar() {
+    long askedSoFar() {
         return asked;
     }
 

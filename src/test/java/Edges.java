@@ -46,7 +46,7 @@ final class Edges {
         quote = itsQuote;
         checks.holds(label("the document says it there"), texts.getOrDefault(place, "").contains(quote));
         tested.merge(place, 1, Integer::sum);
-        int before = checks.askedSoFar();
+        long before = checks.askedSoFar();
         try {
             test.run();
         } catch (RuntimeException e) {
